@@ -382,7 +382,6 @@ public final class CommitGroups {
             this.transactions = transactions;
         }
 
-        @Override
         void execute(int kind, int t) {
             if (finished[t]) {
                 return;
@@ -476,7 +475,6 @@ public final class CommitGroups {
     private static final class DecisionState extends State {
         final int[] decisions = new int[TRANSACTIONS + 1];
 
-        @Override
         void execute(int kind, int t) {
             if (decisions[t] == UNKNOWN) {
                 decisions[t] = kind;
