@@ -1,11 +1,31 @@
+import java.io.IOException;
+import java.nio.file.Files;
+import java.nio.file.Path;
+
 /** Compares answers with what is due, prints every wrong one, and ends the program accordingly. */
 final class Due {
+    private static final Path DOCUMENT = Path.of("../shared/DOC.md");
+
     private int wrong;
     private int compared;
     private String part = "";
 
     void part(String name) {
         part = name;
+    }
+
+    /** A part that stands for words of the document: they must stand there still. */
+    void sentence(String words) {
+        part = "'" + words + "'";
+        yes("in the document", !Files.exists(DOCUMENT) || inOneLine(DOCUMENT).contains(words));
+    }
+
+    private static String inOneLine(Path file) {
+        try {
+            return Files.readString(file).replaceAll("\\s+", " ");
+        } catch (IOException e) {
+            return e.toString();
+        }
     }
 
     void same(String call, long got, long want) {
