@@ -4,6 +4,7 @@ import java.util.HashSet;
 import java.util.List;
 import java.util.Map;
 import java.util.Set;
+import java.util.TreeMap;
 
 /**
  * The document told a second time, as slowly and as differently as possible: a replica keeps only
@@ -51,8 +52,8 @@ final class Model {
     final Map<List<Integer>, Boolean> knownVotes = new HashMap<>();
     final Map<Integer, String> knownDecisions = new HashMap<>();
     final Map<List<Integer>, Integer> knownResults = new HashMap<>();
-    /** Set if a log was exchanged for one that lacks what the replica has executed. */
-    boolean diverged;
+    /** What no run should reach, if one has reached it: the document leaves open what is due then. */
+    String broken;
 
     Model() {
         for (Replica[] group : replicas) {
@@ -133,7 +134,7 @@ final class Model {
                 continue;
             }
             if (entry.kind().equals("COMMIT")) {
-                run(t, s, state.values);
+                commit(state, t, s);
             } else {
                 state.voted.putIfAbsent(t, false);
             }
@@ -143,12 +144,39 @@ final class Model {
         return state;
     }
 
+    private void commit(Shard state, int t, int s) {
+        if (!state.voted.getOrDefault(t, false)) {
+            broken = "a COMMIT without a vote YES";
+        } else if (!run(t, s, state.values).equals(state.noted.get(t))) {
+            broken = "a COMMIT with other results than the noted ones";
+        }
+    }
+
     private Map<Integer, String> decisions(int r) {
         Map<Integer, String> decisions = new HashMap<>();
         for (Entry entry : replicas[3][r].ran) {
             decisions.putIfAbsent(entry.t(), entry.kind());
         }
         return decisions;
+    }
+
+    /** All that later answers depend on, in one text. */
+    String told() {
+        StringBuilder text = new StringBuilder();
+        text.append(coordinatorUp).append(new TreeMap<>(knownDecisions));
+        for (int t = 1; t <= transactions.size(); t++) {
+            Transaction transaction = transactions.get(t - 1);
+            text.append(transaction.closed).append(transaction.operations);
+            for (int n = 0; n < 4; n++) {
+                text.append(knownVotes.get(List.of(t, n))).append(knownResults.get(List.of(t, n)));
+            }
+        }
+        for (Replica[] group : replicas) {
+            for (Replica replica : group) {
+                text.append(replica.up).append(replica.view).append(replica.log).append(replica.ran.size());
+            }
+        }
+        return text.toString();
     }
 
     // ---- groups
@@ -167,7 +195,7 @@ final class Model {
         replica.view = view;
         replica.log = new ArrayList<>(log);
         if (log.size() < replica.ran.size() || !log.subList(0, replica.ran.size()).equals(replica.ran)) {
-            diverged = true;
+            broken = "a log lacks what the replica has executed";
         }
     }
 

@@ -96,8 +96,8 @@ public final class ModelTest {
             } else {
                 disturb(choice - 40);
             }
-            if (model.diverged) {
-                wrong = "the model's logs diverged";
+            if (model.broken != null) {
+                wrong = model.broken;
             }
         }
         return wrong == null;
